@@ -361,14 +361,14 @@ public final class LampLighters {
             throw new IllegalStateException("there are no rounds");
         }
         int best = 0;
-        int fewest = Integer.MAX_VALUE;
+        int fewest = 0;
         for (int round = 0; round < town.book.roundCount; round++) {
             trial.copy(town);
             if (lighter >= 0 && lighter < trial.lighters.length) {
                 trial.lighters[lighter].beginRound(trial.book, round);
             }
             int dark = trial.pass(quarters);
-            if (dark < fewest) {
+            if (round == 0 || dark < fewest) {
                 best = round;
                 fewest = dark;
             }
@@ -428,11 +428,18 @@ public final class LampLighters {
         return r < 15 ? r : 29 - r;
     }
 
+    // Rows are looked at and filled by these, so that no index is used that the row doesn't have.
     private static int get(int[] row, int index) {
         return index >= 0 && index < row.length ? row[index] : NONE;
     }
 
     private static void put(int[] row, int index, int value) {
+        if (index >= 0 && index < row.length) {
+            row[index] = value;
+        }
+    }
+
+    private static void put(long[] row, int index, long value) {
         if (index >= 0 && index < row.length) {
             row[index] = value;
         }
@@ -543,9 +550,7 @@ public final class LampLighters {
         private void keep(int n, int kind, int start, long value) {
             put(kinds, n, kind);
             put(starts, n, start);
-            if (n >= 0 && n < values.length) {
-                values[n] = value;
-            }
+            put(values, n, value);
         }
 
         private int kindOfWord(long letters) {
@@ -656,9 +661,7 @@ public final class LampLighters {
             }
             int lamp = book.lampCount;
             checkName(lamp >= MAX_LAMPS);
-            if (lamp < lampNames.length) {
-                lampNames[lamp] = value;
-            }
+            put(lampNames, lamp, value);
             step();
             if (!accept(AT) || !readNumber(book.posts, lamp, 0, LAST_POST)) {
                 return false;
@@ -679,9 +682,7 @@ public final class LampLighters {
             }
             int round = book.roundCount;
             checkName(round >= MAX_ROUNDS);
-            if (round < roundNames.length) {
-                roundNames[round] = value;
-            }
+            put(roundNames, round, value);
             step();
             int block = readBlock(0);
             if (block == FAILED) {
@@ -726,7 +727,6 @@ public final class LampLighters {
             }
             put(book.words, act, kind);
             put(book.behind, act, NONE);
-            put(book.bodies, act, NONE);
             put(book.elses, act, NONE);
             book.actCount = act + 1;
             return act;
@@ -1229,7 +1229,6 @@ public final class LampLighters {
         private void finish(Lighter lighter) {
             int act = lighter.begun;
             lighter.begun = NONE;
-            lighter.left = 0;
             int value = get(book.values, act);
             int word = get(book.words, act);
             if (word == GO) {

@@ -15,6 +15,7 @@ public final class LighterTest {
         notes();
         measures();
         compares();
+        manyCompares();
         elses();
         repeating();
         walking();
@@ -267,6 +268,19 @@ public final class LighterTest {
         Check.same("measures", noted("if oil=9 and wick=10 and lit<1 and can>8 and moon=0 and hour=0 and post<1(note 1;)"),
             1);
         Check.same("compares of others", noted("if 1=2(note 1;)if 1=1(note 2;)if 2=1 and 1=1(note 3;)else(note 4;)"), 24);
+    }
+
+    private static void manyCompares() {
+        StringBuilder most = new StringBuilder("round r(if 1=1");
+        for (int i = 0; i < 93; i++) {
+            most.append(" and 1=1");
+        }
+        LampLighters x = Books.begun(most + " and hour=0(note 1;)else(note 2;)wait 1;)", 0, 9);
+        x.passQuarters(1);
+        Check.same("95 compares that are so", x.noteOf(0, 0), 1);
+        x.assign(0, 0);
+        x.passQuarters(1);
+        Check.same("the last of 95 compares not", x.noteOf(0, 0), 2);
     }
 
     private static void elses() {

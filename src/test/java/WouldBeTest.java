@@ -11,6 +11,7 @@ public final class WouldBeTest {
         untilLitLate();
         untilLitNever();
         darkAfter();
+        darkAfterWithCans();
         bestRound();
         bestRoundKeeps();
         bestRoundWrong();
@@ -95,6 +96,20 @@ public final class WouldBeTest {
         Check.same("as it comes", x.passNights(1), forty);
         Check.same("as it comes further", x.passNights(1), eighty - forty);
         Check.same("of no lamps", new LampLighters().darkAfter(80), 0);
+    }
+
+    private static void darkAfterWithCans() {
+        LampLighters x = Books.street("lamp a at 0 holds 2;round r(fill 2;light;)", 2);
+        x.lightLamp(0);
+        x.passQuarters(4);
+        x.assign(0, 0);
+        Check.same("darkAfter with a full can", x.darkAfter(5), 1);
+        Check.same("quartersUntilLit with a full can", x.quartersUntilLit(0), 2);
+        x.passQuarters(5);
+        x.assign(0, 0);
+        Check.same("darkAfter with an empty can", x.darkAfter(30), 30);
+        Check.same("quartersUntilLit with an empty can, till behind dawn", x.quartersUntilLit(0), 33);
+        Check.same("darkAfter with a full can at dawn", x.darkAfter(40), 32 + 4);
     }
 
     private static void bestRound() {
