@@ -275,7 +275,12 @@ public final class LighterTest {
         for (int i = 0; i < 93; i++) {
             most.append(" and 1=1");
         }
-        LampLighters x = Books.begun(most + " and hour=0(note 1;)else(note 2;)wait 1;)", 0, 9);
+        String text = most + " and hour=0(note 1;)else(note 2;)wait 1;)";
+        LampLighters x = Books.street(text, 9);
+        for (int n = 0; n < 4; n++) {
+            Check.same("taught once more", Books.teach(x, text), 0);
+        }
+        x.assign(0, 0);
         x.passQuarters(1);
         Check.same("95 compares that are so", x.noteOf(0, 0), 1);
         x.assign(0, 0);
