@@ -5,10 +5,18 @@ final class Check {
         void run();
     }
 
+    private static final int MOST_TOLD = 40;
+
+    private static String passage = "";
     private static int wrong;
     private static int checked;
 
     private Check() {
+    }
+
+    /** Says for which promise, or which passage of "Terms", the answers behind it are looked at. */
+    static void about(String text) {
+        passage = text;
     }
 
     static void same(String what, long got, long due) {
@@ -44,10 +52,10 @@ final class Check {
         same(what + " leaves the digest", x.digest(), before);
     }
 
-    static void fail(String text) {
+    private static void fail(String text) {
         wrong++;
-        if (wrong <= 40) {
-            System.out.println("wrong: " + text);
+        if (wrong <= MOST_TOLD) {
+            System.out.println("wrong: " + (passage.isEmpty() ? "" : passage + " | ") + text);
         }
     }
 
