@@ -15,6 +15,9 @@ public final class ActTest {
         waitTheMost();
         waitAsItBegins();
         doneAsItEnds();
+        nothingElse();
+        numbersAtAnyPost();
+        theEightiethAct();
         light();
         lightWhatCannotBeLit();
         douse();
@@ -29,6 +32,7 @@ public final class ActTest {
         walk();
         walkAnEmptyRound();
         walkDeep();
+        walkDeepest();
         doTimes();
         doNotAtAll();
         doTheMost();
@@ -223,6 +227,67 @@ public final class ActTest {
         y.assign(0, 0);
         y.passQuarters(1);
         Check.same("a trim that was given up does nothing", y.wickOf(0), 7);
+    }
+
+    private static void nothingElse() {
+        Check.about("Terms, lighters: an act does what it says, and nothing else");
+        String[] acts = {"douse;", "trim;wait 1;", "fill 2;", "light;", "wait 1;", "note 9;", "do 9()", "if 1=1()", "go a;"};
+        int[] oil = {24, 24, 26, 24, 24, 24, 24, 24, 24};
+        int[] wick = {7, 10, 7, 7, 7, 7, 7, 7, 7};
+        int[] can = {9, 9, 7, 9, 9, 9, 9, 9, 9};
+        for (int i = 0; i < acts.length; i++) {
+            // other acts stood in the books before
+            LampLighters x = Books.street("round r(" + "fill 9;".repeat(9) + ")", 9);
+            Books.teach(x, "round s(" + "fill 9;".repeat(9) + ")");
+            Books.teach(x, "lamp a at 0 holds 30;lamp b at 1 holds 30;round r(" + acts[i] + ")");
+            x.lightLamp(0);
+            x.passQuarters(12);
+            x.douseLamp(0);
+            x.assign(0, 0);
+            x.passQuarters(acts[i].startsWith("trim") ? 2 : 1);
+            Check.same("oilOf behind " + acts[i], x.oilOf(0), oil[i]);
+            Check.same("wickOf behind " + acts[i], x.wickOf(0), wick[i]);
+            Check.same("isLit behind " + acts[i], x.isLit(0), acts[i].equals("light;"));
+            Check.same("canOf behind " + acts[i], x.canOf(0), can[i]);
+            Check.same("placeOf behind " + acts[i], x.placeOf(0), 0);
+            Check.same("notesOf behind " + acts[i], x.notesOf(0), acts[i].equals("note 9;") ? 1 : 0);
+        }
+    }
+
+    private static void numbersAtAnyPost() {
+        Check.about("Terms, lighters: a number, also 0, is what it says wherever this one is");
+        LampLighters x = acting("go d;note 0;note 1;wait 0;do 0(note 2;)if 0=0 and 0<1(note 3;)if 0=post(note 4;)fill 0;"
+            + "note can;wait 9;");
+        x.lightLamp(3);
+        x.passQuarters(9);
+        long[] due = {9, 3, 1, 0};
+        Check.same("notesOf", x.notesOf(0), 3);
+        x.passQuarters(1);
+        Check.same("notesOf then", x.notesOf(0), 4);
+        for (int back = 0; back < 4; back++) {
+            Check.same("note " + back + " back", x.noteOf(0, back), due[back]);
+        }
+        Check.same("fill 0", x.oilOf(3), 0);
+    }
+
+    private static void theEightiethAct() {
+        Check.about("Terms, lighters: the 80th act of a book is done as any other");
+        String start = Books.lamps(10) + "round r(" + "trim;".repeat(40) + ")round s(" + "trim;".repeat(38) + ")round t(note 1;";
+        LampLighters x = Books.begun(start + "note 77;)", 2, 9);
+        x.passQuarters(1);
+        Check.same("note 77", x.noteOf(0, 0), 77);
+        LampLighters y = Books.begun(start + "go h;)", 2, 9);
+        y.passQuarters(7);
+        Check.same("go h", y.placeOf(0), 7);
+        LampLighters z = Books.begun(start + "wait 5;)", 2, 9);
+        z.passQuarters(1);
+        Check.same("wait 5", z.busyOf(0), 4);
+        LampLighters v = Books.begun(start.replace("note 1;", "do 2(") + "note hour;))", 2, 9);
+        v.passQuarters(1);
+        Check.same("note in the last do", v.notesOf(0), 2);
+        LampLighters w = Books.begun(start.replace("note 1;", "if 1=2()else(") + "light;))", 2, 9);
+        w.passQuarters(1);
+        Check.same("light in the last else", w.isLit(0), true);
     }
 
     private static void light() {
@@ -478,28 +543,34 @@ public final class ActTest {
         Check.same("all notes", y.notesOf(0), 16 + 8 + 4 + 2 + 1);
         Check.same("the last one", y.noteOf(0, 0), 3);
         Check.same("the one ahead of it", y.noteOf(0, 1), 2);
-        LampLighters z = Books.begun(deepest(), 5, 9);
-        z.passQuarters(1);
-        Check.same("no notes on the way down", z.notesOf(0), 0);
-        Check.same("at the bottom of six rounds", z.busyOf(0), 1);
-        z.passQuarters(2);
-        Check.same("all notes on the way up", z.notesOf(0), 6 * 4);
-        for (int i = 0; i < 20; i++) {
-            Check.same("the note of the block " + i + " back", z.noteOf(0, i), 3 - i % 4);
-        }
-        state("behind all of it", z, 0, 0, true);
     }
 
-    /** Six rounds of which each is 5 acts deep, so that 29 acts lead down to the innermost one. */
-    private static String deepest() {
+    private static void walkDeepest() {
+        Check.about("Terms, lighters: six rounds, each of them walked in the sixth block of the one behind it");
         StringBuilder text = new StringBuilder();
         for (int i = 0; i < 6; i++) {
             char name = (char) ('p' + i);
-            text.append("round ").append(name).append("(do 1(do 1(do 1(do 1(");
-            text.append(i == 0 ? "wait 2;" : "walk " + (char) (name - 1) + ";");
-            text.append("note 0;)note 1;)note 2;)note 3;))");
+            text.append("round ").append(name).append("(do 1(do 1(do 1(do 1(do 1(");
+            // 30 at once would be too many on the way down, and on the way up
+            text.append(i == 3 ? "wait 1;" : "");
+            text.append(i == 0 ? "note 7;" : "walk " + (char) (name - 1) + ";");
+            text.append(i == 0 || i == 3 ? "wait 1;" : "");
+            text.append("note 1;)note 2;)note 3;)note 4;)note 5;))");
         }
-        return text.toString();
+        LampLighters x = Books.begun(text.toString(), 5, 9);
+        x.passQuarters(1);
+        Check.same("notes on the way down", x.notesOf(0), 0);
+        x.passQuarters(1);
+        Check.same("notes at the bottom", x.notesOf(0), 1);
+        Check.same("the first one", x.noteOf(0, 0), 7);
+        x.passQuarters(1);
+        Check.same("notes up to the fourth round", x.notesOf(0), 1 + 3 * 5);
+        x.passQuarters(1);
+        Check.same("all notes", x.notesOf(0), 1 + 6 * 5);
+        for (int i = 0; i < 20; i++) {
+            Check.same("note " + i + " back", x.noteOf(0, i), 5 - i % 5);
+        }
+        state("behind all", x, 0, 0, true);
     }
 
     private static void doTimes() {
@@ -574,17 +645,23 @@ public final class ActTest {
 
     private static void manyCompares() {
         Check.about("Terms, lighters: if, of as many compares as a book can hold");
-        String text = "round r(if 1=1" + " and 1=1".repeat(93) + " and hour=0(note 1;)else(note 2;)wait 1;)";
-        LampLighters x = Books.street(text, 9);
+        String start = "round r(if 1=1" + " and 1=1".repeat(95) + " and hour=0";
+        LampLighters x = Books.street(start + "(note 1;))", 9);
         for (int n = 0; n < 4; n++) {
-            Check.same("taught once more", Books.teach(x, text), 0);
+            Check.same("taught once more", Books.teach(x, start + "(note 1;))"), 0);
         }
         x.assign(0, 0);
         x.passQuarters(1);
-        Check.same("95 compares that are so", x.noteOf(0, 0), 1);
+        Check.same("97 compares that are so", x.notesOf(0), 1);
         x.assign(0, 0);
         x.passQuarters(1);
-        Check.same("the last of 95 compares not", x.noteOf(0, 0), 2);
+        Check.same("the last of 97 compares not", x.notesOf(0), 1);
+        LampLighters y = Books.begun(start + "()else(note 2;))", 0, 9);
+        y.passQuarters(1);
+        Check.same("a book of 400 tokens, all so", y.notesOf(0), 0);
+        y.assign(0, 0);
+        y.passQuarters(1);
+        Check.same("a book of 400 tokens, the last not", y.noteOf(0, 0), 2);
     }
 
     private static void elses() {

@@ -12,6 +12,7 @@ public final class TeachTest {
         keepsAllWithAnError();
         keepsAfterManyErrors();
         takesThePlaceOfTheBookBefore();
+        smallerBooks();
         emptyBook();
         beginsAnew();
         clocksBeginAnew();
@@ -100,6 +101,38 @@ public final class TeachTest {
         Check.same("the note", x.noteOf(0, 0), 1);
         Books.error("round r(go a;)", 3, 11);
         Check.same("names of the book before are none", Books.teach(x, "round r(go z;)"), 3);
+    }
+
+    private static void smallerBooks() {
+        Check.about("Promise 4: of a book with more lamps, rounds and acts than the next one nothing is left");
+        String large = Books.lamps(10) + "round p(fill 9;do 9(go j;light;))round q(light;if 1=2(light;)else(go b;))"
+            + "round r(light;trim;)round s(light;)round t(light;)round u(light;note 5;)";
+        String[] small = {"lamp a at 0 holds 9;round r()", "lamp a at 0 holds 9;round r(trim;if 1=2(trim;)do 1()wait 0;)",
+            "lamp a at 0 holds 9;round r()round s(walk r;note 3;)", ""};
+        for (String text : small) {
+            LampLighters x = Books.street(large, 9, 12);
+            // a second time, as the books may stand in two places
+            Check.same("teach of the large one", Books.teach(x, large), 0);
+            for (int i = 0; i < 10; i++) {
+                x.lightLamp(i);
+            }
+            x.assign(0, 0);
+            x.assign(1, 5);
+            x.passQuarters(5);
+            Check.same("teach of " + text, Books.teach(x, text), 0);
+            LampLighters fresh = Books.street(text, 9, 12);
+            Check.same("litLamps", x.litLamps(), 0);
+            Check.same("meanOil", x.meanOil(), fresh.meanOil());
+            for (int round = 0; round < fresh.rounds(); round++) {
+                x.assign(0, round);
+                fresh.assign(0, round);
+                x.passQuarters(3);
+                fresh.passQuarters(3);
+                Check.same("bestRound", x.bestRound(1, 9), fresh.bestRound(1, 9));
+                Check.same("digest", x.digest(), fresh.digest());
+            }
+            Twins.sameFromNowOn("teach of " + text, x, fresh);
+        }
     }
 
     private static void emptyBook() {

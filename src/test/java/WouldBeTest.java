@@ -20,6 +20,7 @@ public final class WouldBeTest {
         untilLitInTheLastQuarter();
         untilLitAndOut();
         untilLitInQuartersThatAreOff();
+        untilLitAsItComes();
         untilLitNoSuchLamp();
         darkAfter();
         darkAfterAsItComes();
@@ -34,6 +35,7 @@ public final class WouldBeTest {
         bestRoundQuarters();
         bestRoundOff();
         bestRoundBeginsAnew();
+        bestRoundAsItComes();
         bestRoundNoSuchLighter();
         bestRoundWrongQuarters();
         bestRoundWithoutRounds();
@@ -144,6 +146,36 @@ public final class WouldBeTest {
         Check.same("80 quarters ahead", x.quartersUntilLit(0), 80);
     }
 
+    /** A street with two lighters who are amid acts in blocks, of which most are done several times. */
+    private static LampLighters busy(int quarters) {
+        LampLighters x = Books.street("lamp a at 0 holds 30;lamp b at 5 holds 7;lamp c at 9 holds 30;"
+            + "round p(do 2(wait 2;if lit=0(light;)else(douse;wait 1;)))"
+            + "round q(do 3(walk p;do 2(go b;fill 2;light;wait 4;)go c;trim;douse;do 2(wait 3;light;wait 2;douse;)go a;))"
+            + "round r(go c;do 9(do 2(light;wait 1;douse;wait hour;)go a;wait 3;walk p;go c;))", 9, 5);
+        x.assign(0, 1);
+        x.assign(1, 2);
+        for (int n = 0; n < quarters; n++) {
+            x.passQuarters(1);
+        }
+        return x;
+    }
+
+    private static void untilLitAsItComes() {
+        Check.about("Promise 39: as it comes if nothing is done by hand, amid any act");
+        for (int ahead = 0; ahead < 80; ahead++) {
+            for (int lamp = 0; lamp < 3; lamp++) {
+                LampLighters x = busy(ahead);
+                int would = x.quartersUntilLit(lamp);
+                int passed = 0;
+                while (!x.isLit(lamp) && passed <= 80) {
+                    x.passQuarters(1);
+                    passed++;
+                }
+                Check.same("lamp " + lamp + " behind " + ahead, would, passed > 80 ? -1 : passed);
+            }
+        }
+    }
+
     private static void untilLitNoSuchLamp() {
         Check.about("Promise 39: IndexOutOfBoundsException if there is no such lamp");
         LampLighters x = Books.begun(BOOK, 1, 9);
@@ -168,16 +200,17 @@ public final class WouldBeTest {
     }
 
     private static void darkAfterAsItComes() {
-        Check.about("Promise 40: as many as there are if nothing is done by hand");
-        for (int ahead = 0; ahead < 45; ahead++) {
-            LampLighters x = Books.begun(BOOK, 1, 9);
-            if (ahead > 0) {
-                x.passQuarters(Math.min(40, ahead));
+        Check.about("Promise 40: as many as there are if nothing is done by hand, amid any act");
+        for (int ahead = 0; ahead < 40; ahead++) {
+            for (int quarters : new int[] {1, 2, 3, 5, 8, 13, 21, 34, 40, 41, 55, 79, 80}) {
+                LampLighters x = busy(ahead);
+                int would = x.darkAfter(quarters);
+                int are = 0;
+                for (int n = 0; n < quarters; n++) {
+                    are += x.passQuarters(1);
+                }
+                Check.same("darkAfter " + quarters + " behind " + ahead, would, are);
             }
-            int eighty = x.darkAfter(80);
-            int forty = x.darkAfter(40);
-            Check.same("the first 40 behind " + ahead, x.passQuarters(40), forty);
-            Check.same("the next 40 behind " + ahead, x.passQuarters(40), eighty - forty);
         }
     }
 
@@ -302,6 +335,27 @@ public final class WouldBeTest {
         x.passQuarters(8);
         Check.same("bestRound", x.bestRound(0, 9), 1);
         Check.same("as it is", x.darkAfter(9), 1);
+    }
+
+    private static void bestRoundAsItComes() {
+        Check.about("Promise 42: as it comes if the round is assigned now, amid any act");
+        for (int ahead = 0; ahead < 40; ahead++) {
+            for (int quarters : new int[] {1, 4, 9, 16, 25, 40}) {
+                int lighter = (ahead + quarters) % 2;
+                int best = 0;
+                int fewest = Integer.MAX_VALUE;
+                for (int round = 0; round < 3; round++) {
+                    LampLighters x = busy(ahead);
+                    x.assign(lighter, round);
+                    int dark = x.passQuarters(quarters);
+                    if (dark < fewest) {
+                        best = round;
+                        fewest = dark;
+                    }
+                }
+                Check.same("of " + quarters + " behind " + ahead, busy(ahead).bestRound(lighter, quarters), best);
+            }
+        }
     }
 
     private static void bestRoundNoSuchLighter() {
