@@ -545,28 +545,40 @@ public final class ActTest {
         Check.same("the one ahead of it", y.noteOf(0, 1), 2);
     }
 
-    private static void walkDeepest() {
-        Check.about("Terms, lighters: six rounds, each of them walked in the sixth block of the one behind it");
-        StringBuilder text = new StringBuilder();
+    /** Six rounds, each of them walked in the sixth block of the one behind it. */
+    private static String deepest() {
+        StringBuilder text = new StringBuilder("lamp a at 0 holds 9;");
         for (int i = 0; i < 6; i++) {
             char name = (char) ('p' + i);
-            text.append("round ").append(name).append("(do 1(do 1(do 1(do 1(do 1(");
+            text.append("round ").append(name).append("(do 1(do 1(do 1(do 1(do ").append(i == 0 ? 2 : 1).append("(");
             // 30 at once would be too many on the way down, and on the way up
             text.append(i == 3 ? "wait 1;" : "");
-            text.append(i == 0 ? "note 7;" : "walk " + (char) (name - 1) + ";");
-            text.append(i == 0 || i == 3 ? "wait 1;" : "");
+            text.append(i == 0 ? "note 7;wait 1;light;douse;" : "walk " + (char) (name - 1) + ";");
+            text.append(i == 3 ? "wait 1;" : "");
             text.append("note 1;)note 2;)note 3;)note 4;)note 5;))");
         }
-        LampLighters x = Books.begun(text.toString(), 5, 9);
+        return text.toString();
+    }
+
+    private static void walkDeepest() {
+        Check.about("Terms, lighters: in 36 blocks at once, as many as a book can lead into");
+        LampLighters x = Books.begun(deepest(), 5, 9);
         x.passQuarters(1);
         Check.same("notes on the way down", x.notesOf(0), 0);
+        Check.same("quartersUntilLit on the way down", x.quartersUntilLit(0), 2);
         x.passQuarters(1);
         Check.same("notes at the bottom", x.notesOf(0), 1);
         Check.same("the first one", x.noteOf(0, 0), 7);
+        Check.same("quartersUntilLit at the bottom", x.quartersUntilLit(0), 1);
+        x.passQuarters(2);
+        Check.same("quartersUntilLit once more", x.quartersUntilLit(0), 2);
+        Check.same("darkAfter", x.darkAfter(6), 5);
         x.passQuarters(1);
-        Check.same("notes up to the fourth round", x.notesOf(0), 1 + 3 * 5);
+        Check.same("notes at the bottom once more", x.notesOf(0), 3);
+        x.passQuarters(3);
+        Check.same("notes up to the fourth round", x.notesOf(0), 3 + 3 * 5);
         x.passQuarters(1);
-        Check.same("all notes", x.notesOf(0), 1 + 6 * 5);
+        Check.same("all notes", x.notesOf(0), 3 + 6 * 5);
         for (int i = 0; i < 20; i++) {
             Check.same("note " + i + " back", x.noteOf(0, i), 5 - i % 5);
         }

@@ -118,7 +118,8 @@ public final class TeachTest {
             }
             x.assign(0, 0);
             x.assign(1, 5);
-            x.passQuarters(5);
+            x.passQuarters(1);
+            Check.same("litLamps of the large one", x.litLamps(), 10);
             Check.same("teach of " + text, Books.teach(x, text), 0);
             LampLighters fresh = Books.street(text, 9, 12);
             Check.same("litLamps", x.litLamps(), 0);
