@@ -19,7 +19,6 @@ public final class TapeTest {
         trimToAll();
         trimToNone();
         trimKeepsTheFirst();
-        readme();
         Check.end();
     }
 
@@ -177,19 +176,5 @@ public final class TapeTest {
         Check.same("feed", feedBlanks(x), 29);
         Check.same("teach", x.teach(), 0);
         Check.same("rounds", x.rounds(), 1);
-    }
-
-    private static void readme() {
-        Check.about("README: the sample");
-        LampLighters street = new LampLighters();
-        street.hire(10);
-        street.feed(0x6c616d70, 0x20612061, 0x74203220, 0x686f6c64, 0x7320393b);
-        street.feed(0x20726f75, 0x6e642072, 0x28676f20, 0x613b206c, 0x69676874);
-        street.feed(0x3b292020, 0x20202020, 0x20202020, 0x20202020, 0x20202020);
-        street.trim(42);
-        Check.same("teach", street.teach(), 0);
-        street.assign(0, 0);
-        Check.same("passQuarters", street.passQuarters(3), 2);
-        Check.same("isLit", street.isLit(0), true);
     }
 }
